@@ -982,7 +982,8 @@ public final class TilesGoAbout {
         }
 
         int aboardBehind(Hearth now, int n) {
-            think(now, n);
+            then.copyFrom(now);
+            then.passNights(n);
             return then.aboardMany();
         }
 
