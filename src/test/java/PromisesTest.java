@@ -197,6 +197,7 @@ public final class PromisesTest {
         kindOne("a000;c0", -1007);
         kindOne("c05;".repeat(23) + "c05", -1095);
         kindOne("c05;".repeat(24), 24);
+        kindOne("c05;".repeat(23) + "lk00", -1096);
         kindOne("lk000;".repeat(15) + "c24;cc", -1095);
     }
 
@@ -562,6 +563,8 @@ public final class PromisesTest {
         due("of a PINNED SAILOR", told("ls521;p09;").still(), 11);
         due("11 NIGHTS between", told("lf900;").still(), -9);
         due("12 quiet NIGHTS ahead", told("n03;lf900;p09;").still(), 0);
+        due("just 12 quiet NIGHTS ahead", told("n09;lf900;p09;").still(), 0);
+        due("but 11 quiet NIGHTS ahead", told("n10;lf900;p09;").still(), -9);
         due("behind 60", told("n06;lf900;p09;s05;ls018;").still(), 60);
         due("behind 61", told("n05;lf900;p09;s05;ls018;").still(), -9);
     }
@@ -625,6 +628,9 @@ public final class PromisesTest {
         due("most", told("ls521;ls521;c22;ls511;c17;").mend(2, 0), 22);
         due("no more than as it is", told("ls521;c00;").mend(2, 0), -9);
         due("none CRACKED", told("ls521;").mend(2, 0), -9);
+        due("TILE 0", told("ls000;c00;s05;").mend(5, 0), 0);
+        due("TILE 0", told("ls000;s05;").mend(5, 1), 0);
+        due("TILE 23", told("ls522;c23;").mend(1, 0), 23);
         TilesGoAbout y = told("ls521;");
         due("mend(0, 1)", y.mend(0, 1), -9);
         due("mend(2, 1)", y.mend(2, 1), 21);
@@ -671,6 +677,9 @@ public final class PromisesTest {
         due("8 NIGHTS away", told("ls000;").fewest(8), 1);
         due("NOBODY waits", told("ls522;ln522;").fewest(2), 1);
         due("NOBODY waits", told("ln522;ls522;").fewest(2), 2);
+        // Whoever is sent HOME to TILE 1 fills it, and so keeps the SAILOR on TILE 0 from THE SHIP.
+        due("of several the least", told("s02;lf901;ls000;lf901;lf901;a020;").fewest(5), 1);
+        due("of several the least", told("s02;ls000;lf901;lf901;lf901;a320;").fewest(5), 1);
         due("of nobody", new TilesGoAbout().fewest(9), 0);
     }
 
@@ -706,6 +715,12 @@ public final class PromisesTest {
         due("crowd(0)", y.crowd(0), 9);
         due("crowd(1)", y.crowd(1), 2);
         due("crowd(5)", y.crowd(5), 5);
+        due("beside", told("lk000;lk001;lk007;").crowd(5), 2);
+        due("beside on one TILE", told("lk000;lk000;").crowd(5), 0);
+        due("most on TILE 1", told("lk001;lk005;lk001;").crowd(0), 1);
+        due("most on TILE 23", told("lk001;lk023;lk023;").crowd(0), 23);
+        due("LOST, the first", told("lk001;lk002;c01;").crowd(3), 1);
+        due("LOST by HOMES, not TILES", told("lk001;a002;c02;").crowd(3), 0);
         TilesGoAbout z = new TilesGoAbout();
         for (int what = 0; what < 7; what++) {
             due("crowd(" + what + ") of nobody", z.crowd(what), what == 6 ? 0xffffff : 0);
@@ -741,6 +756,10 @@ public final class PromisesTest {
         due("order(3)", x.order(3), -9);
         due("order(HUGE)", x.order(HUGE), -9);
         due("of nobody", new TilesGoAbout().order(0), -9);
+        TilesGoAbout y = told("lk022;lk022;lk021;");
+        due("order(0)", y.order(0), 0);
+        due("order(1)", y.order(1), 1);
+        due("order(2)", y.order(2), 2);
         refused(x, "order(-1)", () -> x.order(-1), -4);
     }
 
