@@ -9,6 +9,17 @@ final class Checks {
         about = text;
     }
 
+    /** A test of its own: it bears a name, and looks at one answer at least. */
+    void test(String name, Runnable body) {
+        about(name);
+        int before = made;
+        body.run();
+        if (made == before) {
+            wrong++;
+            System.out.println(name + ": looked at nothing");
+        }
+    }
+
     void due(String call, long got, long want) {
         made++;
         if (got != want) {

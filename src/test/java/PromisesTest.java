@@ -329,16 +329,18 @@ public final class PromisesTest {
         refused(x, "comesIn(0, 10, 24)", () -> x.comesIn(0, 10, 24), -6);
         refused(x, "comesIn(0, 0, 24)", () -> x.comesIn(0, 0, 24), -1);
         refused(x, "comesIn(0, 0, -1)", () -> x.comesIn(0, 0, -1), -1);
+        // Another object: no answer is promised behind an object's 512th call.
+        TilesGoAbout all = new TilesGoAbout();
         for (int i = 0; i < 7; i++) {
-            due("comesIn", x.comesIn(i % 6, i, 23 - i), i);
-            due("KIND", x.little(i, 0), i % 6);
-            due("FIGURE", x.little(i, 1), i);
-            due("HOME", x.little(i, 2), 23 - i);
-            due("TILE", x.little(i, 3), 23 - i);
-            due("PINNED", x.little(i, 4), 0);
+            due("comesIn", all.comesIn(i % 6, i, 23 - i), i);
+            due("KIND", all.little(i, 0), i % 6);
+            due("FIGURE", all.little(i, 1), i);
+            due("HOME", all.little(i, 2), 23 - i);
+            due("TILE", all.little(i, 3), 23 - i);
+            due("PINNED", all.little(i, 4), 0);
         }
-        refused(x, "comesIn(0, 0, 24), the 8th", () -> x.comesIn(0, 0, 24), -1);
-        refused(x, "comesIn(0, 0, 0), the 8th", () -> x.comesIn(0, 0, 0), -6);
+        refused(all, "comesIn(0, 0, 24), the 8th", () -> all.comesIn(0, 0, 24), -1);
+        refused(all, "comesIn(0, 0, 0), the 8th", () -> all.comesIn(0, 0, 0), -6);
 
         TilesGoAbout y = told("lk000;");
         y.image();
